@@ -97,7 +97,7 @@ public final class BobbinPool {
         if (cancelled.isOver()) {
             throw new IllegalStateException("the task is over");
         }
-        int below = now.cancelChildren(cancelled, 0);
+        int below = now.cancelBelow(cancelled);
         now.end(cancelled, Task.CANCELLED);
         return below + 1;
     }
@@ -297,7 +297,7 @@ public final class BobbinPool {
         return trial.isHalted() ? trial.clock - now.clock : -1;
     }
 
-    /** Answers behind how many ticks one task of a job alone, in a new pool, would have all over; -1 if not in 60. */
+    /** Answers behind how many ticks all would be over, with one task of a job alone in a new pool; -1 if not in 60. */
     public int alone(int job, int workers, int way) throws IndexOutOfBoundsException, IllegalArgumentException {
         needJob(job);
         needWorkerCount(workers);
@@ -872,17 +872,21 @@ public final class BobbinPool {
             return true;
         }
 
-        /** Cancels what comes from a task, the last one first; answers how many. */
-        int cancelChildren(Task task, int depth) {
-            if (depth >= MOST_TASKS) {
-                return 0;
+        /** Cancels the children of a task, theirs, and so on, but nothing below one that is over; answers how many. */
+        int cancelBelow(Task root) {
+            int family = 1 << root.number;
+            for (int t = root.number + 1; t < taskCount; t++) {
+                Task task = taskAt(t);
+                if (isIn(family, task.parent) && !task.isOver()) {
+                    family |= 1 << t;
+                }
             }
             int count = 0;
-            for (int c = MOST_TASKS - 1; c >= 0; c--) {
-                Task child = taskAt(c);
-                if (isIn(task.children, c) && !child.isOver()) {
-                    count += cancelChildren(child, depth + 1) + 1;
-                    end(child, Task.CANCELLED);
+            // Children have greater numbers than their parents, so that this way each goes before its parent.
+            for (int t = taskCount - 1; t > root.number; t--) {
+                if (isIn(family, t)) {
+                    end(taskAt(t), Task.CANCELLED);
+                    count++;
                 }
             }
             return count;
@@ -1000,7 +1004,7 @@ public final class BobbinPool {
                     behind = false;
                     break;
                 case Script.STOP:
-                    cancelChildren(task, 0);
+                    cancelBelow(task);
                     break;
                 case Script.AWAIT:
                     behind = await(w, task, n);

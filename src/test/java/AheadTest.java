@@ -7,9 +7,12 @@ public final class AheadTest {
         overInOfAnyEnd();
         overInRefuses();
         valueInGoesAhead();
+        valueInWithEachPromise();
+        aheadFreesOnTheRightWorker();
         valueInRefuses();
         haltsInRefuses();
         aloneIsAnew();
+        aloneBehindOthers();
         aloneWithManyWorkers();
         aloneWithTheWay();
         aloneWithTheTheft();
@@ -86,6 +89,34 @@ public final class AheadTest {
         Due.is("valueIn(0, 1) of one that is over", x.valueIn(0, 1), 111);
     }
 
+    private static void valueInWithEachPromise() {
+        for (int promise = 0; promise < 6; promise++) {
+            BobbinPool x = Due.pool("await " + promise, "await " + (promise + 1) % 6);
+            x.keep(promise, 30 + promise);
+            x.submit(0);
+            x.submit(1);
+            Due.is("valueIn(0, 1)", x.valueIn(0, 1), 30 + promise);
+            Due.is("overIn(0, 1)", x.overIn(0, 1), 1);
+            Due.is("overIn(1, 1)", x.overIn(1, 1), -1);
+        }
+    }
+
+    private static void aheadFreesOnTheRightWorker() {
+        // 1 is blocked on the worker 2 and freed in the tick 4: with theft 2 only that worker takes it.
+        BobbinPool x = Due.pool(3, Due.FREE, 2, "work 3, keep 0, work 9", "await 0, work 2", "work 2", "work 9");
+        x.submit(0);
+        x.submit(2);
+        x.submit(1);
+        x.tick(1);
+        Due.is("stateOf(2)", x.stateOf(2), Due.AWAITING);
+        Due.is("overIn(2, 60), with that worker idle", x.overIn(2, 60), 4);
+        // That worker takes 3 in the tick 2, and is at work with it up to the tick 10.
+        x.submit(3);
+        Due.is("overIn(2, 60), with that worker at work", x.overIn(2, 60), 11);
+        x.tick(1);
+        Due.is("top(2)", x.top(2), 3);
+    }
+
     private static void valueInRefuses() {
         BobbinPool x = Due.pool("work 1");
         x.submit(0);
@@ -126,6 +157,32 @@ public final class AheadTest {
         Due.is("alone(2, 1, 0) beside 24 tasks", x.alone(2, 1, 0), 8);
         Due.is("tasks()", x.tasks(), 24);
         Due.is("clock()", x.clock(), 2);
+    }
+
+    private static void aloneBehindOthers() {
+        // Whatever was tried out before, alone() begins anew.
+        String[] scripts = {
+            "fork 1, fork 1, fork 2, work 2, try, try, try, keep 0", "work 3, await 0, fork 3",
+            "join, work 2, fail", "work 2"
+        };
+        BobbinPool fresh = Due.pool(scripts);
+        for (int way = 0; way <= 2; way++) {
+            BobbinPool x = Due.pool(4, way, 0, scripts);
+            for (int i = 0; i < 8; i++) {
+                x.submit(i < 6 ? 0 : i - 5);
+            }
+            for (int ticks = 1; ticks <= 12; ticks++) {
+                for (int job = 0; job < 4; job++) {
+                    for (int workers = 1; workers <= 3; workers++) {
+                        String call = "alone(" + job + ", " + workers + ", " + way + ") behind " + ticks + " ticks";
+                        int want = Due.pool(scripts).alone(job, workers, way);
+                        x.valueIn(0, ticks);
+                        Due.is(call, x.alone(job, workers, way), want);
+                        Due.is(call + ", of one not used", fresh.alone(job, workers, way), want);
+                    }
+                }
+            }
+        }
     }
 
     private static void aloneWithManyWorkers() {
@@ -189,8 +246,8 @@ public final class AheadTest {
 
     private static BobbinPool busy() {
         BobbinPool x = Due.pool(3, Due.HELP, 1,
-                "fork 1, fork 2, work 2, join, await 0, try, keep 1", "add 5, work 3, fork 2, join", "work 2, add 7, fail",
-                "await 1, work 1");
+                "fork 1, fork 2, work 2, join, await 0, try, keep 1", "add 5, work 3, fork 2, join",
+                "work 2, add 7, fail", "await 1, work 1");
         x.submit(0);
         x.submit(3);
         x.submit(1);

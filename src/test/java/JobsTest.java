@@ -77,7 +77,9 @@ public final class JobsTest {
         BobbinPool x = Due.pool("", "");
         int[][] right = {{0, 1}, {0, 20}, {1, 0}, {1, 1}, {5, -100}, {5, 100}, {5, 0}, {8, 0}, {8, 5}, {9, 0}, {9, 5}};
         for (int i = 0; i < right.length; i++) {
-            Due.is("addStep(1, " + right[i][0] + ", " + right[i][1] + ")", x.addStep(1, right[i][0], right[i][1]), i + 1);
+            int code = right[i][0];
+            int n = right[i][1];
+            Due.is("addStep(1, " + code + ", " + n + ")", x.addStep(1, code, n), i + 1);
         }
     }
 

@@ -5,12 +5,15 @@ public final class PoolTest {
         newWorkersHaveRunNothing();
         workersWithTasksStay();
         workersWithBlockedTasksStay();
+        workersThatStoleGo();
         waysAndThefts();
         wayStaysWithAStackedTask();
         submittedTasksAreCommon();
         twentyFourTasksAndNoMore();
         cancelTakesATaskAway();
         cancelGoesDownTheTree();
+        cancelOfAChainOfAll();
+        cancelOfTheLastOfAll();
         cancelFreesTheParent();
         cancelFromAnyPlace();
         promisesAreKeptOnce();
@@ -102,6 +105,52 @@ public final class PoolTest {
         Due.row("freed by a cancelled child", y, 1, 1);
         y.cancel(1);
         Due.is("setWorkers(1) with a cancelled task that was blocked there", y.setWorkers(1), 2);
+    }
+
+    private static void workersThatStoleGo() {
+        BobbinPool x = Due.pool(2, Due.FREE, 0, "fork 1, fork 1, work 5", "await 0");
+        x.submit(0);
+        x.tick(2);
+        Due.is("told(1, 2)", x.told(1, 2), 2);
+        x.cancel(1);
+        x.cancel(2);
+        Due.is("setWorkers(1)", x.setWorkers(1), 2);
+        x.setWorkers(2);
+        Due.is("told(1, 2) of a new one", x.told(1, 2), 0);
+
+        // The task 0 is blocked on the worker 1, that took it from the common row.
+        BobbinPool y = Due.pool("await 0", "work 9");
+        y.submit(0);
+        y.submit(1);
+        y.setWorkers(2);
+        y.tick(1);
+        Due.is("top(0)", y.top(0), 1);
+        Due.is("setWorkers(1), as it was blocked on the worker 0", y.setWorkers(1), 2);
+        BobbinPool z = Due.pool(2, Due.FREE, 0, "work 1, await 0", "work 9", "work 1, fork 0, work 9");
+        z.submit(1);
+        z.submit(0);
+        z.cancel(0);
+        z.submit(1);
+        z.tick(2);
+        Due.states("blocked on the worker 0", z, Due.CANCELLED, Due.AWAITING, Due.RUNNING);
+        Due.is("top(1)", z.top(1), 2);
+        Due.refuses("setWorkers(1) with the running one", z, Due.STATE, () -> z.setWorkers(1));
+        z.cancel(2);
+        Due.is("setWorkers(1) with one blocked on the worker 0", z.setWorkers(1), 2);
+
+        // The task 0 itself, stolen by the worker 1 as it is freed, and blocked there again.
+        BobbinPool w = Due.pool("work 1, await 0, await 1", "work 9");
+        w.submit(0);
+        w.tick(2);
+        w.submit(1);
+        w.tick(1);
+        w.keep(0, 1);
+        w.setWorkers(2);
+        w.tick(2);
+        Due.states("blocked on the worker 1", w, Due.AWAITING, Due.RUNNING);
+        Due.refuses("setWorkers(1) with the task 0 blocked on the worker 1", w, Due.STATE, () -> w.setWorkers(1));
+        w.keep(1, 1);
+        Due.row("freed there", w, 1, 0);
     }
 
     private static void waysAndThefts() {
@@ -225,6 +274,53 @@ public final class PoolTest {
         Due.is("cancel(0)", y.cancel(0), 1);
         Due.states("the grandchild goes on", y, Due.CANCELLED, Due.DONE, Due.RUNNING);
         Due.is("childrenOf(0) as it is cancelled", y.childrenOf(0), Due.set(1));
+    }
+
+    private static void cancelOfAChainOfAll() {
+        // Each forks the next one and waits for it; the last one finds no room, and waits for a promise.
+        BobbinPool x = Due.pool("fork 0, join, await 0");
+        x.submit(0);
+        x.tick(1);
+        Due.is("tasks()", x.tasks(), 24);
+        Due.is("parentOf(23)", x.parentOf(23), 22);
+        Due.is("stateOf(22)", x.stateOf(22), Due.JOINING);
+        Due.is("stateOf(23)", x.stateOf(23), Due.AWAITING);
+        Due.is("cancel(1), that is all but the first one", x.cancel(1), 23);
+        Due.is("stateOf(23)", x.stateOf(23), Due.CANCELLED);
+        Due.row("the first one is freed, and no other one", x, 0, 0);
+
+        BobbinPool y = Due.pool("fork 0, join, await 0");
+        y.submit(0);
+        y.tick(1);
+        Due.is("cancel(0), that is all", y.cancel(0), 24);
+        Due.row("nothing is left", y, 0);
+        Due.is("tick(1)", y.tick(1), 0);
+
+        BobbinPool z = Due.pool("fork 1, await 0, stop", "fork 1, join, await 1");
+        z.submit(0);
+        z.tick(1);
+        z.keep(0, 0);
+        Due.is("tick(1), as the first one stops all others", z.tick(1), 0);
+        Due.is("stateOf(0)", z.stateOf(0), Due.DONE);
+        Due.is("stateOf(1)", z.stateOf(1), Due.CANCELLED);
+        Due.is("stateOf(23)", z.stateOf(23), Due.CANCELLED);
+    }
+
+    private static void cancelOfTheLastOfAll() {
+        BobbinPool x = Due.pool("fork 1, fork 1, work 9", "work 9");
+        for (int i = 0; i < 21; i++) {
+            x.submit(1);
+        }
+        x.submit(0);
+        x.setWorkers(5);
+        for (int task = 0; task < 21; task++) {
+            x.cancel(task);
+        }
+        x.tick(1);
+        Due.is("childrenOf(21)", x.childrenOf(21), Due.set(22, 23));
+        Due.is("cancel(21)", x.cancel(21), 3);
+        Due.is("stateOf(23)", x.stateOf(23), Due.CANCELLED);
+        Due.is("stateOf(22)", x.stateOf(22), Due.CANCELLED);
     }
 
     private static void cancelFreesTheParent() {

@@ -13,7 +13,8 @@ public final class RoomTest {
     public static void main(String[] args) {
         // The first run loads the classes, the second one is looked at.
         for (int round = 0; round < 2; round++) {
-            BobbinPool x = Due.pool(3, Due.HELP, 1, "fork 1, fork 0, work 2, joinall, keep 0", "work 3, add 1, await 1");
+            BobbinPool x = Due.pool(3, Due.HELP, 1, "fork 1, fork 0, work 2, joinall, keep 0",
+                    "work 3, add 1, await 1");
             x.submit(0);
             x.tick(3);
             long before = MEMORY.getThreadAllocatedBytes(SELF);

@@ -1,3 +1,5 @@
+import java.util.Collections;
+
 /** Term 2: what each step does, when tasks are done at once, and how blocked ones are freed. */
 public final class StepsTest {
     public static void main(String[] args) {
@@ -252,11 +254,15 @@ public final class StepsTest {
         Due.is("valueOf(0)", x.valueOf(0), 1);
     }
 
+    private static String ten(String step) {
+        return String.join(", ", Collections.nCopies(10, step));
+    }
+
     private static void valuesAreCut() {
         // 999 by a promise, ten times 999 by joins of children, and so on, up to the greatest value.
-        BobbinPool x = Due.pool("await 0, await 0, await 0, await 0, await 0, await 0, await 0, await 0, await 0, await 0",
+        BobbinPool x = Due.pool(ten("await 0"),
                 "fork 0, fork 0, fork 0, fork 0, fork 0, joinall, keep 1",
-                "await 1, await 1, await 1, await 1, await 1, await 1, await 1, await 1, await 1, await 1, await 1, keep 2",
+                ten("await 1") + ", await 1, keep 2",
                 "await 2, keep 3, await 2, add 1, keep 4, add -100, keep 5",
                 "fork 3, join");
         x.keep(0, 999);
@@ -271,9 +277,9 @@ public final class StepsTest {
         Due.is("promise(4), cut by a promise and a step", x.promise(4), 999999);
         Due.is("promise(5)", x.promise(5), 999899);
 
-        BobbinPool y = Due.pool("await 0, await 0, await 0, await 0, await 0, await 0, await 0, await 0, await 0, await 0",
+        BobbinPool y = Due.pool(ten("await 0"),
                 "fork 0, fork 0, fork 0, fork 0, fork 0, joinall, keep 1",
-                "await 1, await 1, await 1, await 1, await 1, await 1, await 1, await 1, await 1, await 1, await 1, keep 2",
+                ten("await 1") + ", await 1, keep 2",
                 "await 2, await 2, work 1, add -1, work 1, add 100",
                 "fork 3, fork 3, joinall, keep 5");
         y.keep(0, -999);
