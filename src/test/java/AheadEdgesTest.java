@@ -9,6 +9,7 @@ public final class AheadEdgesTest {
 
     public static void main(String[] args) {
         overInFromOneToSixty();
+        overInBetweenTwoWorks();
         overInOfTheFirstTick();
         overInOfOneThatIsOver();
         overInOfNone();
@@ -71,6 +72,19 @@ public final class AheadEdgesTest {
         }
         for (int ticks : WRONG_TICKS) {
             Twin.refuses("overIn(0, " + ticks + ")", () -> one(work(5)), Due.ARGUMENT, x -> x.overIn(0, ticks));
+        }
+    }
+
+    private static void overInBetweenTwoWorks() {
+        BobbinPool x = one("work 3, work 5, await 0");
+        BobbinPool y = one("work 3, work 5, add 2");
+        for (int ticks = 0; ticks < 8; ticks++) {
+            Due.is("haltsIn(60) behind " + ticks, x.haltsIn(60), 9 - ticks);
+            Due.is("overIn(0, 60) behind " + ticks, y.overIn(0, 60), 9 - ticks);
+            Due.is("valueIn(0, " + (9 - ticks) + ") behind " + ticks, y.valueIn(0, 9 - ticks), 2);
+            Due.is("valueIn(0, " + (8 - ticks) + ") behind " + ticks, y.valueIn(0, 8 - ticks), 0);
+            x.tick(1);
+            y.tick(1);
         }
     }
 

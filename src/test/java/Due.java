@@ -20,10 +20,30 @@ final class Due {
 
     private static final List<String> STEPS =
             List.of("work", "fork", "join", "joinall", "try", "add", "fail", "stop", "await", "keep");
+    /** Numbers for the steps that have none, as these are not looked at. */
+    private static final int[] UNLOOKED = {3, Integer.MIN_VALUE, 1, 77, 0, Integer.MAX_VALUE, 2};
+    /** Far above what a test needs; one that takes longer has met a call that does not end. */
+    private static final long LONGEST = 120000;
     private static int wrong = 0;
     private static int looked = 0;
 
+    static {
+        Thread watch = new Thread(Due::watch);
+        watch.setDaemon(true);
+        watch.start();
+    }
+
     private Due() {
+    }
+
+    private static void watch() {
+        try {
+            Thread.sleep(LONGEST);
+        } catch (InterruptedException e) {
+            return;
+        }
+        System.out.println("a call did not end within " + LONGEST / 1000 + " seconds");
+        Runtime.getRuntime().halt(1);
     }
 
     /** A pool with one job for each text; a text as "work 3, fork 1, join". */
@@ -53,7 +73,8 @@ final class Due {
         for (String text : script.split(",")) {
             String[] words = text.trim().split(" ");
             if (!words[0].isEmpty()) {
-                steps.add(new int[] {STEPS.indexOf(words[0]), words.length > 1 ? Integer.parseInt(words[1]) : 0});
+                int unlooked = UNLOOKED[steps.size() % UNLOOKED.length];
+                steps.add(new int[] {STEPS.indexOf(words[0]), words.length > 1 ? Integer.parseInt(words[1]) : unlooked});
             }
         }
         return steps;

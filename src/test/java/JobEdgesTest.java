@@ -243,14 +243,42 @@ public final class JobEdgesTest {
         refusesNumbers(9, MIN, -1, 6, MAX);
     }
 
+    /** A task with four children, one of each end and one at work, goes through a step with this number. */
+    private static BobbinPool unlooked(int code, int n) {
+        BobbinPool x = Due.pool("add 5", "add 30, fail", "await 4", "work 9", "");
+        x.addStep(4, 5, 2);
+        for (int fork = 0; fork < 4; fork++) {
+            x.addStep(4, 1, fork);
+        }
+        x.addStep(4, 8, 5);
+        x.addStep(4, code, n);
+        x.addStep(4, code, n);
+        x.addStep(4, 5, 50);
+        x.submit(4);
+        x.tick(2);
+        x.cancel(3);
+        x.keep(5, 0);
+        return x;
+    }
+
     private static void unlookedNumbers() {
         for (int code : UNLOOKED) {
-            for (int n : new int[] {MIN, -1, 0, 1, 101, MAX}) {
-                BobbinPool x = emptyJobs(1);
-                Due.is("addStep(0, " + code + ", " + n + ")", x.addStep(0, code, n), 1);
-                x.submit(0);
-                Due.is("tick(1) with the step " + code + ", " + n, x.tick(1), 0);
-                Due.is("stateOf(0) with the step " + code, x.stateOf(0), code == 6 ? Due.FAILED : Due.DONE);
+            for (int n : new int[] {MIN, -101, -1, 1, 2, 5, 6, 20, 21, 100, 101, MAX}) {
+                String what = "the step " + code + " with " + n;
+                BobbinPool alone = emptyJobs(1);
+                Due.is("addStep(0, " + code + ", " + n + ")", alone.addStep(0, code, n), 1);
+                alone.submit(0);
+                Due.is("tick(1) with " + what, alone.tick(1), 0);
+                Due.is("stateOf(0) with " + what, alone.stateOf(0), code == 6 ? Due.FAILED : Due.DONE);
+                Due.is("valueOf(0) with " + what, alone.valueOf(0), 0);
+                Due.is("workOf(0) with " + what, alone.workOf(0), 0);
+                BobbinPool x = unlooked(code, n);
+                BobbinPool y = unlooked(code, 0);
+                for (int tick = 0; tick < 12; tick++) {
+                    x.tick(1);
+                    y.tick(1);
+                    Due.is("digest() with " + what + " behind " + tick, x.digest(), y.digest());
+                }
             }
         }
     }

@@ -6,7 +6,7 @@ public final class RoomTest {
     /** Eight calls each; a pool is used for at most 512 in all. */
     private static final int ROUNDS = 60;
     /** What the machine itself may make beside, far below one small array a call. */
-    private static final long SPARE = POOLS * ROUNDS * 64;
+    private static final long SPARE = POOLS * ROUNDS * 8;
 
     private static final com.sun.management.ThreadMXBean MEMORY =
             (com.sun.management.ThreadMXBean) ManagementFactory.getThreadMXBean();
@@ -16,7 +16,7 @@ public final class RoomTest {
         madeByCalls(newPools());
         // The first run loaded the classes, the second one is looked at.
         long made = madeByCalls(newPools());
-        Due.is("the calls made little: " + made, made <= SPARE ? 1 : 0, 1);
+        Due.is("what the calls made, " + made + " bytes, is little", made <= SPARE ? 1 : 0, 1);
         Due.end();
     }
 
