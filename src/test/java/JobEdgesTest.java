@@ -23,6 +23,7 @@ public final class JobEdgesTest {
         awaitOfEachPromise();
         keepOfEachPromise();
         unlookedNumbers();
+        unlookedNumbersOfJoiningOnes();
         twelveStepsInEachOfEight();
         thirteenthStepIsRefused();
         noStepWithATaskInAnyState();
@@ -279,6 +280,23 @@ public final class JobEdgesTest {
                     y.tick(1);
                     Due.is("digest() with " + what + " behind " + tick, x.digest(), y.digest());
                 }
+            }
+        }
+    }
+
+    private static void unlookedNumbersOfJoiningOnes() {
+        for (int code = 2; code <= 4; code++) {
+            for (int n = 0; n <= 5; n++) {
+                BobbinPool x = Due.pool("", "work 9, work 9");
+                x.addStep(0, 1, 1);
+                x.addStep(0, code, n);
+                x.submit(0);
+                x.tick(1);
+                for (int promise = 0; promise <= 5; promise++) {
+                    x.keep(promise, 7);
+                }
+                Due.is("stateOf(0) at the step " + code + ", " + n, x.stateOf(0), Due.JOINING);
+                Due.is("row(0) at the step " + code + ", " + n, x.row(0), 0);
             }
         }
     }

@@ -3,6 +3,8 @@ public final class PoolEdgesTest {
     private static final int MIN = Integer.MIN_VALUE;
     private static final int MAX = Integer.MAX_VALUE;
     private static final int[] TICKS = {1, 2, 39, 40};
+    /** Which task the worker 2 of thieves() steals with each theft. */
+    private static final int[] STOLEN = {3, 4, -1};
 
     public static void main(String[] args) {
         oneToFiveWorkers();
@@ -19,6 +21,7 @@ public final class PoolEdgesTest {
         wrongWaysChangeNothing();
         wayStaysWithAnyStack();
         sameWayWithAStack();
+        refusedWayKeepsTheTheft();
         wayMayChangeBesideStacks();
         submitOfAnyJob();
         twentyFourInTheCommonRow();
@@ -168,8 +171,10 @@ public final class PoolEdgesTest {
         y.tick(1);
         Due.is("top(0) as it is stolen", y.top(0), 1);
         Due.is("stateOf(1) as it is stolen", y.stateOf(1), Due.RUNNING);
+        Due.is("setWorkers(1) as it was blocked there, and went on", y.setWorkers(1), 2);
         y.tick(1);
         Due.is("stateOf(1) as it is blocked on the worker 0", y.stateOf(1), Due.AWAITING);
+        Due.is("setWorkers(2)", y.setWorkers(2), 1);
         Due.is("setWorkers(1)", y.setWorkers(1), 2);
         y.keep(1, 1);
         Due.row("freed on the worker 0", y, 0, 1);
@@ -290,17 +295,40 @@ public final class PoolEdgesTest {
     }
 
     private static void sameWayWithAStack() {
-        // The worker 2 is at work for two ticks, so that it steals in the third one.
-        int[] stolen = {3, 4, -1};
         for (int theft = 0; theft <= 2; theft++) {
-            BobbinPool x = Due.pool(3, Due.FREE, 2, "fork 3, work 9", "fork 3, fork 3, work 9", "work 2", "work 9");
-            x.submit(0);
-            x.submit(1);
-            x.submit(2);
-            x.tick(2);
+            BobbinPool x = thieves(2);
             Due.is("setWay(0, " + theft + ") with tasks on the stacks", x.setWay(0, theft), 0);
             x.tick(1);
-            Due.is("top(2) with theft " + theft, x.top(2), stolen[theft]);
+            Due.is("top(2) with theft " + theft, x.top(2), STOLEN[theft]);
+        }
+    }
+
+    /** The worker 2 was at work for two ticks, so that it steals in the third one, if it may. */
+    private static BobbinPool thieves(int theft) {
+        BobbinPool x = Due.pool(3, Due.FREE, 2, "fork 3, work 9", "fork 3, fork 3, work 9", "work 2", "work 9");
+        x.submit(0);
+        x.submit(1);
+        x.submit(2);
+        x.tick(2);
+        x.setWay(Due.FREE, theft);
+        return x;
+    }
+
+    private static void refusedWayKeepsTheTheft() {
+        for (int before = 0; before <= 2; before++) {
+            int theft = before;
+            for (int way = 1; way <= 2; way++) {
+                for (int other = 0; other <= 2; other++) {
+                    int to = way;
+                    int from = other;
+                    String call = "setWay(" + to + ", " + from + ") with the theft " + theft;
+                    Twin.refuses(call, () -> thieves(theft), Due.STATE, x -> x.setWay(to, from));
+                    BobbinPool x = thieves(theft);
+                    Twin.thrown(x, y -> y.setWay(to, from));
+                    x.tick(1);
+                    Due.is("top(2) behind " + call, x.top(2), STOLEN[theft]);
+                }
+            }
         }
     }
 

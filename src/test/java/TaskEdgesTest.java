@@ -32,6 +32,7 @@ public final class TaskEdgesTest {
         joinIsBlockedByEachThatIsNotOver();
         freedGoesOnWithTheSameStep();
         freedByAnyEndOfTheChild();
+        childrenOfAnEndedOneGoOn();
         stopOfNoneAndOfAll();
         clockFromZero();
         clockOfAllCalls();
@@ -213,11 +214,11 @@ public final class TaskEdgesTest {
     }
 
     private static void forkWithoutRoomGoesOn() {
-        BobbinPool x = behind(23, "fork 1, add 5, work 1, add 6");
+        BobbinPool x = behind(23, "add 3, fork 1, add 2, work 1, add 6");
         Due.is("tasks() without a 25th", x.tasks(), 24);
         Due.is("childrenOf(23)", x.childrenOf(23), 0);
         Due.is("valueOf(23), as it goes on", x.valueOf(23), 5);
-        Due.is("stepOf(23), as it goes on", x.stepOf(23), 3);
+        Due.is("stepOf(23), as it goes on", x.stepOf(23), 4);
         Due.row("without a 25th", x, 0);
         Due.row("without a 25th", x, -1);
         x.tick(1);
@@ -377,6 +378,26 @@ public final class TaskEdgesTest {
                     Due.is(what + ": overAt(0)", x.overAt(0), end == 2 ? 5 : 6);
                 }
             }
+        }
+    }
+
+    private static void childrenOfAnEndedOneGoOn() {
+        // 0 ends at or behind its last step; its child 1 is ready or awaits, 2 is what it joins.
+        String[] ends = {"await 0", "await 0, fail", "await 0, join", "await 0, joinall"};
+        int[] states = {Due.DONE, Due.FAILED, Due.FAILED, Due.FAILED};
+        for (int i = 0; i < ends.length; i++) {
+            BobbinPool x = Due.pool("fork 1, fork 2, " + ends[i], "add 7, await 1, add 1", "fail");
+            x.submit(0);
+            x.tick(1);
+            x.keep(0, 0);
+            x.tick(1);
+            Due.states(ends[i], x, states[i], Due.AWAITING, Due.FAILED);
+            Due.is("childrenOf(0) behind " + ends[i], x.childrenOf(0) & 2, 2);
+            x.keep(1, 0);
+            Due.is("tick(1) behind " + ends[i], x.tick(1), 0);
+            Due.is("valueOf(1) behind " + ends[i], x.valueOf(1), 8);
+            Due.is("stateOf(0) behind " + ends[i], x.stateOf(0), states[i]);
+            Due.is("overAt(0) behind " + ends[i], x.overAt(0), 1);
         }
     }
 

@@ -124,7 +124,7 @@ final class Twin {
             note(x, told, names, "valueIn(" + t + ", 6)", p -> p.valueIn(t, 6));
         }
         note(x, told, names, "haltsIn(60)", p -> p.haltsIn(60));
-        for (int job = 0; job < 8; job++) {
+        for (int job = 0; job <= 8; job++) {
             int j = job;
             note(x, told, names, "alone(" + j + ", 3, 2)", p -> p.alone(j, 3, 2));
         }
@@ -135,12 +135,13 @@ final class Twin {
             note(x, told, names, "tick(1)", p -> p.tick(1));
             note(x, told, names, "digest() behind " + i + " ticks", BobbinPool::digest);
         }
-        for (int job = 0; job < 8; job++) {
+        for (int job = 0; job <= 8; job++) {
             int j = job;
             note(x, told, names, "addStep(" + j + ", 5, 1)", p -> p.addStep(j, 5, 1));
             note(x, told, names, "submit(" + j + ")", p -> p.submit(j));
         }
         note(x, told, names, "addJob()", BobbinPool::addJob);
+        note(x, told, names, "addStep(7, 1, 8)", p -> p.addStep(7, 1, 8));
         for (int promise = 0; promise < 6; promise++) {
             int p = promise;
             note(x, told, names, "keep(" + p + ", 100)", q -> q.keep(p, 100) ? 1 : 0);

@@ -28,6 +28,7 @@ public final class WorkerEdgesTest {
         helpOnlyAboveABlockedOne();
         freedUnderAnotherWaits();
         freedInEachWay();
+        freedOnAnyStack();
         workersOneAfterTheOther();
         eachTickIsOneOfThree();
         workersFromOneToFive();
@@ -271,6 +272,7 @@ public final class WorkerEdgesTest {
         for (int count = 1; count <= 3; count++) {
             x.tick(1);
             Due.is("told(1, 2)", x.told(1, 2), count);
+            Due.is("ran(1, 1), as it stole", x.ran(1, 1), -1);
             x.cancel(x.top(1));
         }
         x.tick(1);
@@ -431,6 +433,28 @@ public final class WorkerEdgesTest {
             Due.is("stateOf(0) with the way " + way, x.stateOf(0), states[way]);
             Due.is("row(0) with the way " + way, x.row(0), way == 0 ? 1 : 0);
             Due.is("stack(0) with the way " + way, x.stack(0), way == 0 ? 0 : 1);
+        }
+    }
+
+    private static void freedOnAnyStack() {
+        for (int way = 1; way <= 2; way++) {
+            for (int worker = 0; worker < 5; worker++) {
+                // Each worker before this one is at work, each behind it finds nothing.
+                BobbinPool x = Due.pool(5, way, 2, "work 9", "await 0, work 1");
+                for (int i = 0; i < worker; i++) {
+                    x.submit(0);
+                }
+                x.submit(1);
+                x.tick(1);
+                Due.is("stateOf(" + worker + ")", x.stateOf(worker), Due.AWAITING);
+                x.keep(0, 0);
+                Due.is("stateOf(" + worker + "), freed on a stack", x.stateOf(worker), Due.RUNNING);
+                Due.is("row(" + worker + ")", x.row(worker), 0);
+                Due.is("stack(" + worker + ")", x.stack(worker), 1);
+                x.tick(1);
+                Due.is("ran(" + worker + ", 1)", x.ran(worker, 1), worker);
+                Due.is("stack(" + worker + ") as it is done", x.stack(worker), 0);
+            }
         }
     }
 
@@ -782,6 +806,20 @@ public final class WorkerEdgesTest {
             x.tick(7);
             x.tick(idle);
             Due.isReal("load() with " + idle + " idle ticks", x.load(), 7.0 / (7.0 + idle));
+        }
+        // A tick in which one was stolen is neither.
+        for (int theft = 0; theft <= 1; theft++) {
+            BobbinPool x = rows(new int[] {9, 1, 9, 9, 9}, new int[] {0, 0, 0, 2, 0});
+            x.setWay(Due.FREE, theft);
+            Due.isReal("load() before", x.load(), 1.0);
+            x.tick(1);
+            Due.isReal("load() with one stolen", x.load(), 1.0);
+            x.cancel(x.top(1));
+            x.tick(1);
+            Due.isReal("load() with two stolen", x.load(), 1.0);
+            x.cancel(x.top(1));
+            x.tick(1);
+            Due.isReal("load() with an idle tick", x.load(), 17.0 / 18.0);
         }
         // Those that are gone do not count, and those that came begin with nothing.
         BobbinPool x = Due.pool(3, Due.FREE, 0, "work 2");
