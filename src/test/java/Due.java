@@ -74,7 +74,8 @@ final class Due {
             String[] words = text.trim().split(" ");
             if (!words[0].isEmpty()) {
                 int unlooked = UNLOOKED[steps.size() % UNLOOKED.length];
-                steps.add(new int[] {STEPS.indexOf(words[0]), words.length > 1 ? Integer.parseInt(words[1]) : unlooked});
+                int n = words.length > 1 ? Integer.parseInt(words[1]) : unlooked;
+                steps.add(new int[] {STEPS.indexOf(words[0]), n});
             }
         }
         return steps;

@@ -13,13 +13,38 @@ import java.util.regex.Pattern;
 /** The public face of the document, and those rules of LANGUAGE.md that can be seen from outside or in the text. */
 public final class FaceTest {
     private static final String[] FACE = {
-        "int addJob()", "int addStep(int, int, int)", "int setWorkers(int)", "int setWay(int, int)",
-        "int submit(int)", "int cancel(int)", "boolean keep(int, int)", "int tick(int)", "int clock()",
-        "int tasks()", "int stateOf(int)", "int valueOf(int)", "int stepOf(int)", "int parentOf(int)",
-        "int childrenOf(int)", "int workOf(int)", "int overAt(int)", "int promise(int)", "int workers()",
-        "int top(int)", "int stack(int)", "int row(int)", "int inRow(int, int)", "int told(int, int)",
-        "int ran(int, int)", "int halted()", "double load()", "int overIn(int, int)", "int valueIn(int, int)",
-        "int haltsIn(int)", "int alone(int, int, int)", "long digest()"
+        "int addJob() throws IllegalStateException",
+        "int addStep(int, int, int) throws IndexOutOfBoundsException, IllegalArgumentException, IllegalStateException",
+        "int setWorkers(int) throws IllegalArgumentException, IllegalStateException",
+        "int setWay(int, int) throws IllegalArgumentException, IllegalStateException",
+        "int submit(int) throws IndexOutOfBoundsException, IllegalStateException",
+        "int cancel(int) throws IndexOutOfBoundsException, IllegalStateException",
+        "boolean keep(int, int) throws IndexOutOfBoundsException, IllegalArgumentException",
+        "int tick(int) throws IllegalArgumentException",
+        "int clock()",
+        "int tasks()",
+        "int stateOf(int) throws IndexOutOfBoundsException",
+        "int valueOf(int) throws IndexOutOfBoundsException",
+        "int stepOf(int) throws IndexOutOfBoundsException",
+        "int parentOf(int) throws IndexOutOfBoundsException",
+        "int childrenOf(int) throws IndexOutOfBoundsException",
+        "int workOf(int) throws IndexOutOfBoundsException",
+        "int overAt(int) throws IndexOutOfBoundsException",
+        "int promise(int) throws IndexOutOfBoundsException",
+        "int workers()",
+        "int top(int) throws IndexOutOfBoundsException",
+        "int stack(int) throws IndexOutOfBoundsException",
+        "int row(int) throws IndexOutOfBoundsException",
+        "int inRow(int, int) throws IndexOutOfBoundsException",
+        "int told(int, int) throws IndexOutOfBoundsException, IllegalArgumentException",
+        "int ran(int, int) throws IndexOutOfBoundsException, IllegalArgumentException",
+        "int halted()",
+        "double load()",
+        "int overIn(int, int) throws IndexOutOfBoundsException, IllegalArgumentException",
+        "int valueIn(int, int) throws IndexOutOfBoundsException, IllegalArgumentException",
+        "int haltsIn(int) throws IllegalArgumentException",
+        "int alone(int, int, int) throws IndexOutOfBoundsException, IllegalArgumentException",
+        "long digest()"
     };
 
     public static void main(String[] args) throws IOException {
@@ -54,7 +79,13 @@ public final class FaceTest {
         for (Class<?> type : method.getParameterTypes()) {
             text.append(text.charAt(text.length() - 1) == '(' ? "" : ", ").append(type);
         }
-        return text + ")";
+        text.append(")");
+        String before = " throws ";
+        for (Class<?> thrown : method.getExceptionTypes()) {
+            text.append(before).append(thrown.getSimpleName());
+            before = ", ";
+        }
+        return text.toString();
     }
 
     private static void nothingElseIsOpen() {

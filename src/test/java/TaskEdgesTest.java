@@ -7,7 +7,8 @@ public final class TaskEdgesTest {
     /** The tasks 0 to 2 of an extreme pool are used up to keep the promise 3 with the greatest or smallest value. */
     private static final int NEXT = 3;
     private static final int GREATEST = 999999;
-    private static final String[] ENDS = {"work 1", "fork 1", "join", "joinall", "try", "add 1", "stop", "await 0", "keep 1"};
+    private static final String[] ENDS =
+            {"work 1", "fork 1", "join", "joinall", "try", "add 1", "stop", "await 0", "keep 1"};
 
     public static void main(String[] args) {
         valueUpToTheEdge();
@@ -513,7 +514,7 @@ public final class TaskEdgesTest {
     }
 
     private static void parentsStay() {
-        BobbinPool x = Due.pool(1, Due.FREE, 0, "fork 1, join, fork 1, fork 2, try, fail", "add 1", "fail", "fork 1, await 0");
+        BobbinPool x = Due.pool("fork 1, join, fork 1, fork 2, try, fail", "add 1", "fail", "fork 1, await 0");
         x.submit(0);
         x.submit(3);
         x.tick(1);
@@ -557,8 +558,7 @@ public final class TaskEdgesTest {
     }
 
     private static void workOfEndedOnes() {
-        BobbinPool x = Due.pool(1, Due.FREE, 0, "fork 1, fork 2, fork 3, await 0, try, try, try", "work 2", "work 3, fail",
-                "work 20");
+        BobbinPool x = Due.pool("fork 1, fork 2, fork 3, await 0, try, try, try", "work 2", "work 3, fail", "work 20");
         x.submit(0);
         x.tick(9);
         // The last child runs first, for all nine ticks.

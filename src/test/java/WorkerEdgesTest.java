@@ -326,7 +326,7 @@ public final class WorkerEdgesTest {
         Due.is("valueOf(22)", x.valueOf(22), 12);
 
         // 24 tasks, each with ten steps of joining or trying what is there.
-        BobbinPool y = Due.pool("fork 0, fork 0, fork 0, fork 0, fork 0, joinall, joinall, try, join, stop, add 1, keep 0");
+        BobbinPool y = Due.pool(times(5, "fork 0") + ", joinall, joinall, try, join, stop, add 1, keep 0");
         y.submit(0);
         Due.is("tick(1), through all of a tree", y.tick(1), 0);
         Due.is("tasks()", y.tasks(), 24);

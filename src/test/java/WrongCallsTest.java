@@ -5,7 +5,8 @@
 public final class WrongCallsTest {
     private static final int MIN = Integer.MIN_VALUE;
     private static final int MAX = Integer.MAX_VALUE;
-    private static final String FULL = "add 1, add 1, add 1, add 1, add 1, add 1, add 1, add 1, add 1, add 1, add 1, work 1";
+    private static final String FULL =
+            "add 1, add 1, add 1, add 1, add 1, add 1, add 1, add 1, add 1, add 1, add 1, work 1";
 
     private final String name;
     private final Twin.Maker maker;
