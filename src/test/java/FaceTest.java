@@ -5,6 +5,8 @@ import java.lang.reflect.Method;
 import java.lang.reflect.Modifier;
 import java.nio.file.Files;
 import java.nio.file.Path;
+import java.util.ArrayList;
+import java.util.List;
 import java.util.Set;
 import java.util.TreeSet;
 import java.util.regex.Matcher;
@@ -50,6 +52,7 @@ public final class FaceTest {
     public static void main(String[] args) throws IOException {
         methodsAreTheFace();
         nothingElseIsOpen();
+        classesAreSmall();
         textKeepsToTheRules();
         Due.end();
     }
@@ -66,10 +69,32 @@ public final class FaceTest {
             }
         }
         Due.is("the face " + got + " is as due", got.equals(want) ? 1 : 0, 1);
-        for (Method method : BobbinPool.class.getDeclaredMethods()) {
-            if (Modifier.isPrivate(method.getModifiers())) {
-                Due.is("private " + method + " bears the name of a public one",
-                        names.contains(method.getName()) ? 1 : 0, 0);
+        for (Class<?> place : classes()) {
+            for (Method method : place.getDeclaredMethods()) {
+                if (!Modifier.isPublic(method.getModifiers())) {
+                    Due.is(method + " bears the name of a public one", names.contains(method.getName()) ? 1 : 0, 0);
+                }
+            }
+        }
+    }
+
+    /** The class of the document and those inside it. */
+    private static List<Class<?>> classes() {
+        List<Class<?>> all = new ArrayList<>(List.of(BobbinPool.class));
+        all.addAll(List.of(BobbinPool.class.getDeclaredClasses()));
+        return all;
+    }
+
+    private static void classesAreSmall() {
+        Due.is(classes().size() + " classes are at most twelve", classes().size() <= 12 ? 1 : 0, 1);
+        for (Class<?> place : classes()) {
+            int fields = 0;
+            for (Field field : place.getDeclaredFields()) {
+                fields += Modifier.isStatic(field.getModifiers()) ? 0 : 1;
+            }
+            Due.is(place + " has " + fields + " fields, at most twenty", fields <= 20 ? 1 : 0, 1);
+            for (Method method : place.getDeclaredMethods()) {
+                Due.is(method + " has at most seven parameters", method.getParameterCount() <= 7 ? 1 : 0, 1);
             }
         }
     }
